@@ -286,11 +286,9 @@ public final class RegionDesk {
         private final boolean[] stricts = new boolean[ROOM];
         private final Span span = new Span();
         private int size;
-        private boolean refuted;
 
         void clear() {
             size = 0;
-            refuted = false;
         }
 
         int memberCount() {
@@ -314,8 +312,8 @@ public final class RegionDesk {
         }
 
         void put(long a, long b, long c, boolean strict) {
+            // Only a sum that FREE makes of members of a row with points is so: it holds.
             if (a == 0 && b == 0) {
-                refuted = refuted || c < 0 || (c == 0 && strict);
                 return;
             }
             long divisor = commonDivisor(commonDivisor(a, b), c);
@@ -385,9 +383,6 @@ public final class RegionDesk {
          * throughout: then sums with n = 0 are at most 8 * 10^16 and the others as Span wants.
          */
         boolean hasPoints() {
-            if (refuted) {
-                return false;
-            }
             span.reset();
             for (int i = 0; i < size; i++) {
                 long u = bs[i];
@@ -607,11 +602,14 @@ public final class RegionDesk {
         boolean complement(Region p) {
             result.clear();
             draft.clear();
-            boolean kept = result.admit(draft);
-            for (int r = 0; r < p.rowCount() && kept; r++) {
-                kept = cut(p, r) && intersect(setAside(), pieces);
+            result.admit(draft);
+            for (int r = 0; r < p.rowCount(); r++) {
+                cut(p, r);
+                if (!intersect(setAside(), pieces)) {
+                    return false;
+                }
             }
-            return kept;
+            return true;
         }
 
         /** The result stays as it is while another one is made. */
@@ -622,18 +620,15 @@ public final class RegionDesk {
             return previous;
         }
 
-        /** The PARTS of a row. */
-        private boolean cut(Region p, int r) {
+        /** The PARTS of a row; they keep the limits, as it does. */
+        private void cut(Region p, int r) {
             pieces.clear();
             for (int i = 0; i < p.memberCount(r); i++) {
                 draft.clear();
                 p.pourContrary(r, i, draft);
                 p.pour(r, i, draft);
-                if (!pieces.admit(draft)) {
-                    return false;
-                }
+                pieces.admit(draft);
             }
-            return true;
         }
 
         boolean project(Region p, int column) {

@@ -73,7 +73,7 @@ public final class ModelTest {
         for (int i = 0; i < count; i++) {
             int a = number();
             int b = number();
-            int c = random.nextInt(6) == 0 ? number() : Math.abs(number());
+            int c = bound();
             boolean strict = random.nextBoolean();
             compare("member(" + a + ", " + b + ", " + c + ", " + strict + ")",
                     () -> desk.member(a, b, c, strict), () -> model.member(a, b, c, strict));
@@ -95,6 +95,15 @@ public final class ModelTest {
         int d = random.nextInt(4) == 0 ? edge(1, 1000) : edge(1, 4);
         compare("holds(" + p + ", " + q + ", " + d + ")", () -> desk.holds(p, q, d),
                 () -> model.holds(p, q, d));
+    }
+
+    /** Mostly above 0, so that many rows have points. */
+    private int bound() {
+        // Many lines through one point: there it matters which members are strict.
+        if (run % 7 == 0 && random.nextInt(4) != 0) {
+            return 0;
+        }
+        return random.nextInt(6) == 0 ? number() : Math.abs(number());
     }
 
     private int number() {

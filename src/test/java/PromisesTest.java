@@ -680,6 +680,11 @@ public final class PromisesTest {
         lay(desk, -1, 0, 0, 0, 0, -1, 0, 0, -1, -1, 0, 1);
         leastIs(desk, 1, 2, 1, 0, 1);
         leastIs(desk, 1, 0, 0, 0, 1);
+        desk.drop();
+        lay(desk, 1, 0, 0, 0, 0, 1, 0, 0, 1, 1, 0, 1);
+        leastIs(desk, -1, -2, 1, 0, 1);
+        leastIs(desk, -2, -1, 1, 0, 1);
+        leastIs(desk, 0, -1, 0, 0, 1);
     }
 
     private static void leastOfUnions() {
