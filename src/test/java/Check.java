@@ -1,5 +1,13 @@
+import java.util.function.Consumer;
+import java.util.function.Supplier;
+
 /** Counts the answers that are not as due, prints each, and ends the test. */
 final class Check {
+    static final Class<?> ARGUMENT = IllegalArgumentException.class;
+    static final Class<?> STATE = IllegalStateException.class;
+    static final Class<?> INDEX = IndexOutOfBoundsException.class;
+    static final Class<?> LIMIT = UnsupportedOperationException.class;
+
     /** A call that answers nothing or something that does not matter. */
     interface Call {
         void run();
@@ -7,16 +15,18 @@ final class Check {
 
     private static int asked = 0;
     private static int wrong = 0;
+    private static String sentence = "";
 
     private Check() {
     }
 
+    /** The words of the document that the answers from here on are about. */
+    static void sentence(String words) {
+        sentence = words + ": ";
+    }
+
     static void due(String call, long want, long got) {
-        asked++;
-        if (want != got) {
-            wrong++;
-            System.out.println(call + " answered " + got + ", due is " + want);
-        }
+        due(call, Long.toString(want), Long.toString(got));
     }
 
     static void due(String call, boolean want, boolean got) {
@@ -27,24 +37,31 @@ final class Check {
         asked++;
         if (!want.equals(got)) {
             wrong++;
-            System.out.println(call + " answered " + got + ", due is " + want);
+            System.out.println(sentence + call + " answered " + got + ", due is " + want);
         }
     }
 
     static void argument(String call, Call body) {
-        thrown(call, IllegalArgumentException.class, body);
+        thrown(call, ARGUMENT, body);
     }
 
     static void state(String call, Call body) {
-        thrown(call, IllegalStateException.class, body);
+        thrown(call, STATE, body);
     }
 
     static void index(String call, Call body) {
-        thrown(call, IndexOutOfBoundsException.class, body);
+        thrown(call, INDEX, body);
     }
 
     static void limit(String call, Call body) {
-        thrown(call, UnsupportedOperationException.class, body);
+        thrown(call, LIMIT, body);
+    }
+
+    /** The call is refused, and a desk made the same way without it holds just the same. */
+    static void refused(String call, Class<?> want, Supplier<RegionDesk> maker, Consumer<RegionDesk> use) {
+        RegionDesk desk = maker.get();
+        thrown(call, want, () -> use.accept(desk));
+        due("all there is behind " + call, Desks.wholly(maker.get()), Desks.wholly(desk));
     }
 
     private static void thrown(String call, Class<?> want, Call body) {

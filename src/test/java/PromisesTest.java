@@ -34,35 +34,6 @@ public final class PromisesTest {
         Check.end();
     }
 
-    /** A new row on the pile: four numbers for each member, the last one 1 for a strict one. */
-    private static void lay(RegionDesk desk, int... numbers) {
-        for (int i = 0; i < numbers.length; i += 4) {
-            desk.member(numbers[i], numbers[i + 1], numbers[i + 2], numbers[i + 3] == 1);
-        }
-        desk.row();
-    }
-
-    private static RegionDesk with(int... numbers) {
-        RegionDesk desk = new RegionDesk();
-        lay(desk, numbers);
-        return desk;
-    }
-
-    /** The uppermost region: a row in each pair of brackets, members as "a b c <" or "a b c <=". */
-    private static String told(RegionDesk desk) {
-        StringBuilder text = new StringBuilder();
-        for (int r = 0; r < desk.rows(); r++) {
-            text.append('[');
-            for (int i = 0; i < desk.members(r); i++) {
-                text.append(i == 0 ? "" : ", ").append(desk.part(r, i, 0)).append(' ')
-                        .append(desk.part(r, i, 1)).append(' ').append(desk.part(r, i, 2))
-                        .append(desk.part(r, i, 3) == 1 ? " <" : " <=");
-            }
-            text.append(']');
-        }
-        return text.toString();
-    }
-
     private static void newObject() {
         RegionDesk desk = new RegionDesk();
         Check.due("pile of a new object", 0, desk.pile());
@@ -107,9 +78,9 @@ public final class PromisesTest {
     private static void row() {
         RegionDesk desk = new RegionDesk();
         Check.due("row of nothing", 1, desk.row());
-        Check.due("row without members", "[]", told(desk));
-        lay(desk, 1, 0, 4, 0);
-        Check.due("row of one", "[1 0 4 <=]", told(desk));
+        Check.due("row without members", "[]", Desks.told(desk));
+        Desks.lay(desk, 1, 0, 4, 0);
+        Check.due("row of one", "[1 0 4 <=]", Desks.told(desk));
         for (int i = 3; i <= 6; i++) {
             Check.due("row", i, desk.row());
         }
@@ -119,76 +90,76 @@ public final class PromisesTest {
         Check.due("member stays if row throws", 2, desk.member(0, 1, 3, true));
         desk.drop();
         Check.due("row", 6, desk.row());
-        Check.due("what stayed", "[0 1 2 <]", told(desk));
+        Check.due("what stayed", "[0 1 2 <]", Desks.told(desk));
         Check.due("member behind row", 1, desk.member(0, 1, 2, true));
     }
 
     private static void normalForm() {
-        Check.due("divided", "[2 3 5 <=]", told(with(4, 6, 10, 0)));
-        Check.due("divided by what divides all three", "[4 6 9 <=]", told(with(4, 6, 9, 0)));
-        Check.due("c 0", "[2 3 0 <]", told(with(200, 300, 0, 1)));
-        Check.due("below 0", "[-2 -3 -5 <]", told(with(-20, -30, -50, 1)));
-        Check.due("farthest", "[-1 -1 -1 <=]", told(with(-10000, -10000, -10000, 0)));
-        Check.due("least c", "[1 2 3 <=]", told(with(1, 2, 4, 1, 1, 2, 3, 0, 1, 2, 5, 0)));
-        Check.due("least c last", "[1 2 -3 <=]", told(with(1, 2, 4, 1, 1, 2, -3, 0)));
-        Check.due("strict of equal ones", "[1 2 3 <]", told(with(1, 2, 3, 1, 1, 2, 3, 0)));
-        Check.due("strict of equal ones last", "[1 2 3 <]", told(with(2, 4, 6, 0, 1, 2, 3, 1)));
-        Check.due("the same twice", "[1 2 3 <=]", told(with(1, 2, 3, 0, 3, 6, 9, 0)));
-        Check.due("parallel", "[2 4 5 <=]", told(with(1, 2, 3, 0, 2, 4, 5, 0)));
-        Check.due("parallel", "[1 2 2 <=]", told(with(1, 2, 2, 0, 2, 4, 5, 1)));
+        Check.due("divided", "[2 3 5 <=]", Desks.form(4, 6, 10, 0));
+        Check.due("divided by what divides all three", "[4 6 9 <=]", Desks.form(4, 6, 9, 0));
+        Check.due("c 0", "[2 3 0 <]", Desks.form(200, 300, 0, 1));
+        Check.due("below 0", "[-2 -3 -5 <]", Desks.form(-20, -30, -50, 1));
+        Check.due("farthest", "[-1 -1 -1 <=]", Desks.form(-10000, -10000, -10000, 0));
+        Check.due("least c", "[1 2 3 <=]", Desks.form(1, 2, 4, 1, 1, 2, 3, 0, 1, 2, 5, 0));
+        Check.due("least c last", "[1 2 -3 <=]", Desks.form(1, 2, 4, 1, 1, 2, -3, 0));
+        Check.due("strict of equal ones", "[1 2 3 <]", Desks.form(1, 2, 3, 1, 1, 2, 3, 0));
+        Check.due("strict of equal ones last", "[1 2 3 <]", Desks.form(2, 4, 6, 0, 1, 2, 3, 1));
+        Check.due("the same twice", "[1 2 3 <=]", Desks.form(1, 2, 3, 0, 3, 6, 9, 0));
+        Check.due("parallel", "[2 4 5 <=]", Desks.form(1, 2, 3, 0, 2, 4, 5, 0));
+        Check.due("parallel", "[1 2 2 <=]", Desks.form(1, 2, 2, 0, 2, 4, 5, 1));
     }
 
     private static void normalFormOrder() {
         Check.due("ordered by a, then b", "[-1 0 5 <=, 0 -1 5 <=, 0 1 5 <=, 1 -1 9 <=, 1 1 9 <=]",
-                told(with(1, 1, 9, 0, 0, 1, 5, 0, 1, -1, 9, 0, 0, -1, 5, 0, -1, 0, 5, 0)));
+                Desks.form(1, 1, 9, 0, 0, 1, 5, 0, 1, -1, 9, 0, 0, -1, 5, 0, -1, 0, 5, 0));
     }
 
     private static void impliedMembers() {
-        Check.due("implied by two", "[0 1 1 <=, 1 0 1 <=]", told(with(1, 0, 1, 0, 0, 1, 1, 0, 1, 1, 2, 0)));
+        Check.due("implied by two", "[0 1 1 <=, 1 0 1 <=]", Desks.form(1, 0, 1, 0, 0, 1, 1, 0, 1, 1, 2, 0));
         Check.due("strict one at the corner stays", "[0 1 1 <=, 1 0 1 <=, 1 1 2 <]",
-                told(with(1, 0, 1, 0, 0, 1, 1, 0, 1, 1, 2, 1)));
+                Desks.form(1, 0, 1, 0, 0, 1, 1, 0, 1, 1, 2, 1));
         Check.due("strict one at a strict corner goes", "[0 1 1 <=, 1 0 1 <]",
-                told(with(1, 0, 1, 1, 0, 1, 1, 0, 1, 1, 2, 1)));
+                Desks.form(1, 0, 1, 1, 0, 1, 1, 0, 1, 1, 2, 1));
         // The point (0, 0) by many lines: those that come first go first.
         Check.due("the first go first", "[-1 0 0 <=, 0 1 0 <=, 1 -1 0 <=]",
-                told(with(1, 0, 0, 0, -1, 0, 0, 0, 0, 1, 0, 0, 0, -1, 0, 0, 1, -1, 0, 0)));
-        Check.due("a line", "[-1 1 0 <=, 1 -1 0 <=]", told(with(1, -1, 0, 0, -1, 1, 0, 0)));
+                Desks.form(1, 0, 0, 0, -1, 0, 0, 0, 0, 1, 0, 0, 0, -1, 0, 0, 1, -1, 0, 0));
+        Check.due("a line", "[-1 1 0 <=, 1 -1 0 <=]", Desks.form(1, -1, 0, 0, -1, 1, 0, 0));
         Check.due("a ray", "[-1 0 0 <=, 0 -1 0 <=, 0 1 0 <=]",
-                told(with(0, 1, 0, 0, 0, -1, 0, 0, -1, 0, 0, 0)));
+                Desks.form(0, 1, 0, 0, 0, -1, 0, 0, -1, 0, 0, 0));
     }
 
     private static void rowsWithoutPoints() {
-        Check.due("crossed", "", told(with(1, 0, 1, 0, -1, 0, -2, 0)));
-        Check.due("touching", "[-1 0 -1 <=, 1 0 1 <=]", told(with(1, 0, 1, 0, -1, 0, -1, 0)));
-        Check.due("touching, strict", "", told(with(1, 0, 1, 0, -1, 0, -1, 1)));
-        Check.due("three", "", told(with(-1, 0, 0, 0, 0, -1, 0, 0, 1, 1, -1, 0)));
+        Check.due("crossed", "", Desks.form(1, 0, 1, 0, -1, 0, -2, 0));
+        Check.due("touching", "[-1 0 -1 <=, 1 0 1 <=]", Desks.form(1, 0, 1, 0, -1, 0, -1, 0));
+        Check.due("touching, strict", "", Desks.form(1, 0, 1, 0, -1, 0, -1, 1));
+        Check.due("three", "", Desks.form(-1, 0, 0, 0, 0, -1, 0, 0, 1, 1, -1, 0));
         Check.due("three through a point", "[-1 0 0 <=, 0 -1 0 <=, 1 1 0 <=]",
-                told(with(-1, 0, 0, 0, 0, -1, 0, 0, 1, 1, 0, 0)));
-        Check.due("three through a point, strict", "", told(with(-1, 0, 0, 0, 0, -1, 0, 1, 1, 1, 0, 0)));
-        Check.due("narrow", "", told(with(9999, -10000, 0, 1, -9999, 10000, 0, 0)));
+                Desks.form(-1, 0, 0, 0, 0, -1, 0, 0, 1, 1, 0, 0));
+        Check.due("three through a point, strict", "", Desks.form(-1, 0, 0, 0, 0, -1, 0, 1, 1, 1, 0, 0));
+        Check.due("narrow", "", Desks.form(9999, -10000, 0, 1, -9999, 10000, 0, 0));
     }
 
     private static void and() {
-        RegionDesk desk = with(1, 0, 0, 0);
+        RegionDesk desk = Desks.with(1, 0, 0, 0);
         Check.state("and of one", () -> desk.and());
-        lay(desk, 1, 0, 5, 0);
+        Desks.lay(desk, 1, 0, 5, 0);
         desk.or();
-        lay(desk, 0, 1, 0, 0);
-        lay(desk, 0, 1, 7, 1);
+        Desks.lay(desk, 0, 1, 0, 0);
+        Desks.lay(desk, 0, 1, 7, 1);
         desk.or();
         desk.and();
         Check.due("pile behind and", 1, desk.pile());
         Check.due("rows of the lower one first", "[0 1 0 <=, 1 0 0 <=][0 1 7 <, 1 0 0 <=]"
-                + "[0 1 0 <=, 1 0 5 <=][0 1 7 <, 1 0 5 <=]", told(desk));
-        lay(desk, -1, 0, -1, 0, 0, -1, -1, 0);
+                + "[0 1 0 <=, 1 0 5 <=][0 1 7 <, 1 0 5 <=]", Desks.told(desk));
+        Desks.lay(desk, -1, 0, -1, 0, 0, -1, -1, 0);
         desk.and();
-        Check.due("those without points are none", "[-1 0 -1 <=, 0 -1 -1 <=, 0 1 7 <, 1 0 5 <=]", told(desk));
-        lay(desk, 1, 0, 0, 0);
+        Check.due("those without points are none", "[-1 0 -1 <=, 0 -1 -1 <=, 0 1 7 <, 1 0 5 <=]", Desks.told(desk));
+        Desks.lay(desk, 1, 0, 0, 0);
         desk.and();
-        Check.due("none left", "", told(desk));
-        lay(desk);
+        Check.due("none left", "", Desks.told(desk));
+        Desks.lay(desk);
         desk.and();
-        Check.due("none and all", "", told(desk));
+        Check.due("none and all", "", Desks.told(desk));
         desk.drop();
         Check.state("and of none", () -> desk.and());
     }
@@ -209,20 +180,20 @@ public final class PromisesTest {
     }
 
     private static void andLimits() {
-        RegionDesk desk = with(polygon(0));
+        RegionDesk desk = Desks.with(polygon(0));
         Check.due("twelve members", 12, desk.members(0));
-        String lower = told(desk);
-        lay(desk, polygon(20));
+        String lower = Desks.told(desk);
+        Desks.lay(desk, polygon(20));
         Check.due("twelve members", 12, desk.members(0));
-        String upper = told(desk);
+        String upper = Desks.told(desk);
         Check.limit("more than twelve members", () -> desk.and());
         Check.due("pile behind it", 2, desk.pile());
-        Check.due("the upper one behind it", upper, told(desk));
+        Check.due("the upper one behind it", upper, Desks.told(desk));
         desk.drop();
-        Check.due("the lower one behind it", lower, told(desk));
-        lay(desk, polygon(0));
+        Check.due("the lower one behind it", lower, Desks.told(desk));
+        Desks.lay(desk, polygon(0));
         desk.and();
-        Check.due("the same twice", lower, told(desk));
+        Check.due("the same twice", lower, Desks.told(desk));
 
         RegionDesk many = new RegionDesk();
         layStrips(many, 4, true);
@@ -241,7 +212,7 @@ public final class PromisesTest {
     private static void layStrips(RegionDesk desk, int count, boolean ofX) {
         int a = ofX ? 1 : 0;
         for (int i = 0; i < count; i++) {
-            lay(desk, a, 1 - a, 2 * i + 1, 0, -a, a - 1, -2 * i, 0);
+            Desks.lay(desk, a, 1 - a, 2 * i + 1, 0, -a, a - 1, -2 * i, 0);
             if (i > 0) {
                 desk.or();
             }
@@ -249,25 +220,25 @@ public final class PromisesTest {
     }
 
     private static void or() {
-        RegionDesk desk = with(1, 0, 0, 0);
+        RegionDesk desk = Desks.with(1, 0, 0, 0);
         Check.state("or of one", () -> desk.or());
-        lay(desk, 1, 0, -5, 0);
+        Desks.lay(desk, 1, 0, -5, 0);
         desk.or();
         Check.due("pile behind or", 1, desk.pile());
-        Check.due("lower one first, though it has all", "[1 0 0 <=][1 0 -5 <=]", told(desk));
-        lay(desk, 3, 0, -15, 0);
-        lay(desk, 0, 1, 2, 0);
+        Check.due("lower one first, though it has all", "[1 0 0 <=][1 0 -5 <=]", Desks.told(desk));
+        Desks.lay(desk, 3, 0, -15, 0);
+        Desks.lay(desk, 0, 1, 2, 0);
         desk.or();
         desk.or();
-        Check.due("the same is not added", "[1 0 0 <=][1 0 -5 <=][0 1 2 <=]", told(desk));
-        lay(desk, 1, 0, 0, 1);
+        Check.due("the same is not added", "[1 0 0 <=][1 0 -5 <=][0 1 2 <=]", Desks.told(desk));
+        Desks.lay(desk, 1, 0, 0, 1);
         desk.or();
-        Check.due("the strict one is another", "[1 0 0 <=][1 0 -5 <=][0 1 2 <=][1 0 0 <]", told(desk));
+        Check.due("the strict one is another", "[1 0 0 <=][1 0 -5 <=][0 1 2 <=][1 0 0 <]", Desks.told(desk));
         desk.keep(0);
         desk.load(1);
         desk.load(0);
         desk.or();
-        Check.due("none or some", "[1 0 0 <=][1 0 -5 <=][0 1 2 <=][1 0 0 <]", told(desk));
+        Check.due("none or some", "[1 0 0 <=][1 0 -5 <=][0 1 2 <=][1 0 0 <]", Desks.told(desk));
         desk.load(1);
         desk.or();
         Check.due("some or none", 4, desk.rows());
@@ -284,10 +255,10 @@ public final class PromisesTest {
         desk.load(0);
         desk.or();
         Check.due("twelve that are there", 12, desk.rows());
-        lay(desk, 0, 1, 0, 0);
+        Desks.lay(desk, 0, 1, 0, 0);
         Check.limit("more than twelve rows", () -> desk.or());
         Check.due("pile behind it", 2, desk.pile());
-        Check.due("the upper one behind it", "[0 1 0 <=]", told(desk));
+        Check.due("the upper one behind it", "[0 1 0 <=]", Desks.told(desk));
         desk.load(2);
         desk.or();
         desk.load(0);
@@ -305,40 +276,40 @@ public final class PromisesTest {
         Check.state("not of none", () -> desk.not());
         desk.load(0);
         desk.not();
-        Check.due("not of no rows", "[]", told(desk));
+        Check.due("not of no rows", "[]", Desks.told(desk));
         desk.not();
-        Check.due("not of all", "", told(desk));
+        Check.due("not of all", "", Desks.told(desk));
         desk.drop();
-        lay(desk, 1, 2, 3, 0);
+        Desks.lay(desk, 1, 2, 3, 0);
         desk.not();
-        Check.due("the contrary", "[-1 -2 -3 <]", told(desk));
+        Check.due("the contrary", "[-1 -2 -3 <]", Desks.told(desk));
         desk.not();
-        Check.due("the contrary of a strict one", "[1 2 3 <=]", told(desk));
-        lay(desk, 1, 0, 1, 0, 0, 1, 1, 1);
+        Check.due("the contrary of a strict one", "[1 2 3 <=]", Desks.told(desk));
+        Desks.lay(desk, 1, 0, 1, 0, 0, 1, 1, 1);
         desk.not();
-        Check.due("with all members before", "[0 -1 -1 <=][-1 0 -1 <, 0 1 1 <]", told(desk));
-        lay(desk, -1, 0, -1, 0, 1, 0, 1, 0);
+        Check.due("with all members before", "[0 -1 -1 <=][-1 0 -1 <, 0 1 1 <]", Desks.told(desk));
+        Desks.lay(desk, -1, 0, -1, 0, 1, 0, 1, 0);
         desk.not();
-        Check.due("a part that makes one before it needless", "[1 0 1 <][-1 0 -1 <]", told(desk));
+        Check.due("a part that makes one before it needless", "[1 0 1 <][-1 0 -1 <]", Desks.told(desk));
         desk.drop();
-        lay(desk, 1, 0, 0, 0);
-        lay(desk, 0, 1, 0, 0);
+        Desks.lay(desk, 1, 0, 0, 0);
+        Desks.lay(desk, 0, 1, 0, 0);
         desk.or();
         desk.not();
-        Check.due("not of two rows", "[-1 0 0 <, 0 -1 0 <]", told(desk));
+        Check.due("not of two rows", "[-1 0 0 <, 0 -1 0 <]", Desks.told(desk));
         desk.drop();
-        lay(desk, 1, 0, 0, 0, 0, 1, 0, 0);
-        lay(desk, -1, 0, 0, 0, 0, -1, 0, 0);
+        Desks.lay(desk, 1, 0, 0, 0, 0, 1, 0, 0);
+        Desks.lay(desk, -1, 0, 0, 0, 0, -1, 0, 0);
         desk.or();
         desk.not();
-        Check.due("row for row", "[0 -1 0 <, 1 0 0 <][-1 0 0 <, 0 1 0 <]", told(desk));
+        Check.due("row for row", "[0 -1 0 <, 1 0 0 <][-1 0 0 <, 0 1 0 <]", Desks.told(desk));
         desk.drop();
-        lay(desk, 1, 0, 5, 0);
+        Desks.lay(desk, 1, 0, 5, 0);
         desk.load(0);
         desk.not();
         desk.or();
         desk.not();
-        Check.due("a row with all points leaves none", "", told(desk));
+        Check.due("a row with all points leaves none", "", Desks.told(desk));
     }
 
     private static void notLimits() {
@@ -346,25 +317,25 @@ public final class PromisesTest {
         layBoxes(desk, 3);
         desk.keep(0);
         desk.load(0);
-        String before = told(desk);
+        String before = Desks.told(desk);
         Check.limit("more than twelve rows", () -> desk.not());
         Check.due("pile behind it", 1, desk.pile());
-        Check.due("the region behind it", before, told(desk));
+        Check.due("the region behind it", before, Desks.told(desk));
         desk.drop();
         // In between there are more than twelve, though a last row with all points leaves none.
         desk.load(0);
-        lay(desk);
+        Desks.lay(desk);
         desk.or();
         Check.limit("more than twelve rows in between", () -> desk.not());
         Check.due("rows behind it", 4, desk.rows());
         desk.drop();
-        lay(desk);
+        Desks.lay(desk);
         desk.load(0);
         desk.or();
         desk.not();
         Check.due("a first row with all points leaves none", 0, desk.rows());
         desk.drop();
-        lay(desk, polygon(0));
+        Desks.lay(desk, polygon(0));
         desk.not();
         Check.due("twelve parts", 12, desk.rows());
         Check.due("the last part", true, desk.members(11) <= 12);
@@ -376,7 +347,7 @@ public final class PromisesTest {
     /** Some boxes of one by one, along the line x = y. */
     private static void layBoxes(RegionDesk desk, int count) {
         for (int i = 0; i < count; i++) {
-            lay(desk, 1, 0, 2 * i + 1, 0, -1, 0, -2 * i, 0, 0, 1, 2 * i + 1, 0, 0, -1, -2 * i, 0);
+            Desks.lay(desk, 1, 0, 2 * i + 1, 0, -1, 0, -2 * i, 0, 0, 1, 2 * i + 1, 0, 0, -1, -2 * i, 0);
             if (i > 0) {
                 desk.or();
             }
@@ -387,71 +358,71 @@ public final class PromisesTest {
         RegionDesk desk = new RegionDesk();
         Check.state("free of none", () -> desk.free(0));
         Check.argument("no such column, none on the pile", () -> desk.free(2));
-        lay(desk, 2, 1, 4, 0, -3, 1, 5, 1, 0, 1, 9, 0);
+        Desks.lay(desk, 2, 1, 4, 0, -3, 1, 5, 1, 0, 1, 9, 0);
         Check.argument("no such column", () -> desk.free(2));
         Check.argument("no such column", () -> desk.free(-1));
         desk.keep(0);
         desk.load(0);
         desk.free(0);
         // 3 (2 x + y <= 4) + 2 (-3 x + y < 5): 5 y < 22, which implies y <= 9.
-        Check.due("free of x", "[0 5 22 <]", told(desk));
+        Check.due("free of x", "[0 5 22 <]", Desks.told(desk));
         desk.drop();
         desk.load(0);
         desk.free(1);
-        Check.due("free of y", "[]", told(desk));
+        Check.due("free of y", "[]", Desks.told(desk));
         desk.drop();
-        lay(desk, 1, 1, 4, 0, -1, 1, 0, 0, 0, -1, 0, 0);
+        Desks.lay(desk, 1, 1, 4, 0, -1, 1, 0, 0, 0, -1, 0, 0);
         desk.keep(1);
         desk.load(1);
         desk.free(1);
-        Check.due("a triangle free of y", "[-1 0 0 <=, 1 0 4 <=]", told(desk));
+        Check.due("a triangle free of y", "[-1 0 0 <=, 1 0 4 <=]", Desks.told(desk));
         desk.drop();
         desk.load(1);
         desk.free(0);
-        Check.due("a triangle free of x", "[0 -1 0 <=, 0 1 2 <=]", told(desk));
+        Check.due("a triangle free of x", "[0 -1 0 <=, 0 1 2 <=]", Desks.told(desk));
         desk.drop();
-        lay(desk, 1, 0, 4, 0, -1, 0, 0, 1);
+        Desks.lay(desk, 1, 0, 4, 0, -1, 0, 0, 1);
         desk.free(0);
-        Check.due("what holds by itself is no member", "[]", told(desk));
-        lay(desk, 0, 1, 1, 0, 1, 0, 0, 0);
-        lay(desk, 0, 1, 1, 0, -1, 0, -5, 0);
+        Check.due("what holds by itself is no member", "[]", Desks.told(desk));
+        Desks.lay(desk, 0, 1, 1, 0, 1, 0, 0, 0);
+        Desks.lay(desk, 0, 1, 1, 0, -1, 0, -5, 0);
         desk.or();
         desk.free(0);
-        Check.due("the same rows are one", "[0 1 1 <=]", told(desk));
+        Check.due("the same rows are one", "[0 1 1 <=]", Desks.told(desk));
         desk.drop();
         desk.load(3);
         desk.free(1);
-        Check.due("free of no rows", "", told(desk));
+        Check.due("free of no rows", "", Desks.told(desk));
     }
 
     private static void freeLimits() {
-        RegionDesk desk = with(1, 10000, 0, 0, -1, 1, 0, 0);
+        RegionDesk desk = Desks.with(1, 10000, 0, 0, -1, 1, 0, 0);
         desk.free(0);
-        Check.due("y <= 0, divided first", "[0 1 0 <=]", told(desk));
+        Check.due("y <= 0, divided first", "[0 1 0 <=]", Desks.told(desk));
         desk.drop();
-        lay(desk, 1, 9999, 1, 0, -1, 1, 0, 0);
+        Desks.lay(desk, 1, 9999, 1, 0, -1, 1, 0, 0);
         desk.free(0);
-        Check.due("the highest number", "[0 10000 1 <=]", told(desk));
+        Check.due("the highest number", "[0 10000 1 <=]", Desks.told(desk));
         desk.drop();
-        lay(desk, 1, 10000, 1, 0, -1, 1, 0, 0);
-        String before = told(desk);
+        Desks.lay(desk, 1, 10000, 1, 0, -1, 1, 0, 0);
+        String before = Desks.told(desk);
         Check.limit("a number beyond 10000", () -> desk.free(0));
-        Check.due("the region behind it", before, told(desk));
-        lay(desk, 1, -10000, 1, 0, -1, -1, 0, 0);
+        Check.due("the region behind it", before, Desks.told(desk));
+        Desks.lay(desk, 1, -10000, 1, 0, -1, -1, 0, 0);
         Check.limit("a number below -10000", () -> desk.free(0));
         desk.drop();
-        lay(desk, 1, 1, 10000, 0, -1, 0, 1, 0);
+        Desks.lay(desk, 1, 1, 10000, 0, -1, 0, 1, 0);
         Check.limit("c beyond 10000", () -> desk.free(0));
         desk.drop();
-        lay(desk, 1, 1, -10000, 0, -1, 0, -1, 0);
+        Desks.lay(desk, 1, 1, -10000, 0, -1, 0, -1, 0);
         Check.limit("c below -10000", () -> desk.free(0));
         desk.drop();
         // What the normal form does without may be far.
-        lay(desk, 1, 1, 10000, 0, -1, 0, 1, 0, 0, 1, 3, 0);
+        Desks.lay(desk, 1, 1, 10000, 0, -1, 0, 1, 0, 0, 1, 3, 0);
         desk.free(0);
-        Check.due("the far one is implied", "[0 1 3 <=]", told(desk));
+        Check.due("the far one is implied", "[0 1 3 <=]", Desks.told(desk));
         desk.drop();
-        lay(desk, 9999, 10000, 1, 0, -9998, -9997, -10000, 0, 0, -1, 10000, 0, 0, 1, 10000, 0);
+        Desks.lay(desk, 9999, 10000, 1, 0, -9998, -9997, -10000, 0, 0, -1, 10000, 0, 0, 1, 10000, 0);
         Check.limit("sums near 2 * 10^8", () -> desk.free(0));
     }
 
@@ -459,24 +430,24 @@ public final class PromisesTest {
         RegionDesk desk = new RegionDesk();
         Check.state("keep of none", () -> desk.keep(0));
         Check.argument("no such table, none on the pile", () -> desk.keep(4));
-        lay(desk, 1, 0, 0, 0);
-        lay(desk, 0, 1, 0, 0);
+        Desks.lay(desk, 1, 0, 0, 0);
+        Desks.lay(desk, 0, 1, 0, 0);
         Check.argument("keep, no such table", () -> desk.keep(4));
         Check.argument("keep, no such table", () -> desk.keep(-1));
         Check.argument("load, no such table", () -> desk.load(4));
         Check.argument("load, no such table", () -> desk.load(-1));
         desk.keep(3);
         Check.due("pile behind keep", 1, desk.pile());
-        Check.due("the one below", "[1 0 0 <=]", told(desk));
+        Check.due("the one below", "[1 0 0 <=]", Desks.told(desk));
         Check.due("load", 2, desk.load(3));
-        Check.due("what was kept", "[0 1 0 <=]", told(desk));
+        Check.due("what was kept", "[0 1 0 <=]", Desks.told(desk));
         desk.not();
         Check.due("load", 3, desk.load(3));
-        Check.due("what is kept stays", "[0 1 0 <=]", told(desk));
+        Check.due("what is kept stays", "[0 1 0 <=]", Desks.told(desk));
         desk.drop();
         desk.keep(3);
         desk.load(3);
-        Check.due("in place of what was kept", "[0 -1 0 <]", told(desk));
+        Check.due("in place of what was kept", "[0 -1 0 <]", Desks.told(desk));
         for (int i = 3; i <= 6; i++) {
             Check.due("load", i, desk.load(0));
         }
@@ -489,12 +460,12 @@ public final class PromisesTest {
         RegionDesk desk = new RegionDesk();
         Check.due("drop of none", false, desk.drop());
         Check.due("pile", 0, desk.pile());
-        lay(desk, 1, 0, 0, 0);
-        lay(desk, 0, 1, 0, 0);
+        Desks.lay(desk, 1, 0, 0, 0);
+        Desks.lay(desk, 0, 1, 0, 0);
         Check.due("pile", 2, desk.pile());
         Check.due("drop", true, desk.drop());
         Check.due("pile", 1, desk.pile());
-        Check.due("what is left", "[1 0 0 <=]", told(desk));
+        Check.due("what is left", "[1 0 0 <=]", Desks.told(desk));
         Check.due("drop", true, desk.drop());
         Check.due("drop of none", false, desk.drop());
         Check.due("pile", 0, desk.pile());
@@ -508,8 +479,8 @@ public final class PromisesTest {
         desk.load(0);
         Check.due("rows", 0, desk.rows());
         Check.index("members, no rows", () -> desk.members(0));
-        lay(desk, 1, 0, 0, 0, 0, 1, 0, 0);
-        lay(desk);
+        Desks.lay(desk, 1, 0, 0, 0, 0, 1, 0, 0);
+        Desks.lay(desk);
         desk.or();
         Check.due("rows", 2, desk.rows());
         Check.due("members", 2, desk.members(0));
@@ -524,7 +495,7 @@ public final class PromisesTest {
         RegionDesk desk = new RegionDesk();
         Check.state("part of none", () -> desk.part(0, 0, 0));
         Check.state("part of none", () -> desk.part(-1, 0, 9));
-        lay(desk, 1, -2, 3, 1);
+        Desks.lay(desk, 1, -2, 3, 1);
         Check.due("a", 1, desk.part(0, 0, 0));
         Check.due("b", -2, desk.part(0, 0, 1));
         Check.due("c", 3, desk.part(0, 0, 2));
@@ -537,10 +508,10 @@ public final class PromisesTest {
         Check.index("no such row", () -> desk.part(-1, 0, 0));
         Check.index("no such member, what 4", () -> desk.part(0, 1, 4));
         Check.index("no such row, what 4", () -> desk.part(1, 0, 4));
-        lay(desk, 5, 7, 10000, 0);
+        Desks.lay(desk, 5, 7, 10000, 0);
         Check.due("not strict", 0, desk.part(0, 0, 3));
         Check.due("c", 10000, desk.part(0, 0, 2));
-        lay(desk);
+        Desks.lay(desk);
         Check.index("the row without members", () -> desk.part(0, 0, 0));
     }
 
@@ -548,7 +519,7 @@ public final class PromisesTest {
         RegionDesk desk = new RegionDesk();
         Check.state("holds of none", () -> desk.holds(0, 0, 1));
         Check.state("holds of none", () -> desk.holds(0, 0, 0));
-        lay(desk, 3, 2, 1, 0, -1, 0, 5, 1);
+        Desks.lay(desk, 3, 2, 1, 0, -1, 0, 5, 1);
         Check.argument("p", () -> desk.holds(10001, 0, 1));
         Check.argument("p", () -> desk.holds(-10001, 0, 1));
         Check.argument("q", () -> desk.holds(0, 10001, 1));
@@ -562,16 +533,16 @@ public final class PromisesTest {
         Check.due("on the strict one", false, desk.holds(-5, 0, 1));
         Check.due("before it", true, desk.holds(-4999, 0, 1000));
         Check.due("far", false, desk.holds(10000, 10000, 1));
-        lay(desk, -3, -2, -1, 1);
+        Desks.lay(desk, -3, -2, -1, 1);
         desk.or();
         Check.due("in the other row", true, desk.holds(10000, 10000, 1));
         Check.due("in no row", false, desk.holds(-10000, 10000, 1000));
         Check.due("far", true, desk.holds(10000, -10000, 1000));
         desk.load(0);
         Check.due("no rows", false, desk.holds(0, 0, 1));
-        lay(desk);
+        Desks.lay(desk);
         Check.due("all points", true, desk.holds(-10000, 10000, 1000));
-        lay(desk, 10000, 10000, 10000, 0);
+        Desks.lay(desk, 10000, 10000, 10000, 0);
         Check.due("sums do not wrap", false, desk.holds(10000, 10000, 1));
         Check.due("sums do not wrap", true, desk.holds(-10000, -10000, 1));
     }
@@ -579,33 +550,33 @@ public final class PromisesTest {
     private static void within() {
         RegionDesk desk = new RegionDesk();
         Check.state("within of none", () -> desk.within());
-        lay(desk, 1, 0, 5, 0);
+        Desks.lay(desk, 1, 0, 5, 0);
         Check.state("within of one", () -> desk.within());
-        lay(desk, 1, 0, 5, 1);
+        Desks.lay(desk, 1, 0, 5, 1);
         Check.due("the strict one in the other", true, desk.within());
         Check.due("pile behind it", 2, desk.pile());
-        Check.due("the upper one behind it", "[1 0 5 <]", told(desk));
-        lay(desk, 1, 0, 5, 0);
+        Check.due("the upper one behind it", "[1 0 5 <]", Desks.told(desk));
+        Desks.lay(desk, 1, 0, 5, 0);
         Check.due("not the other way", false, desk.within());
         desk.drop();
         desk.load(0);
         Check.due("no points in any", true, desk.within());
-        lay(desk, 1, 0, 0, 0);
+        Desks.lay(desk, 1, 0, 0, 0);
         Check.due("points in none", false, desk.within());
         desk.drop();
         desk.load(0);
         Check.due("no points in none", true, desk.within());
-        lay(desk, 1, 0, 1, 0);
-        lay(desk, -1, 0, -1, 0);
+        Desks.lay(desk, 1, 0, 1, 0);
+        Desks.lay(desk, -1, 0, -1, 0);
         desk.or();
-        lay(desk);
+        Desks.lay(desk);
         Check.due("all in two halves", true, desk.within());
         desk.drop();
         desk.drop();
-        lay(desk, 1, 0, 1, 1);
-        lay(desk, -1, 0, -1, 1);
+        Desks.lay(desk, 1, 0, 1, 1);
+        Desks.lay(desk, -1, 0, -1, 1);
         desk.or();
-        lay(desk);
+        Desks.lay(desk);
         Check.due("all but a line", false, desk.within());
     }
 
@@ -620,16 +591,16 @@ public final class PromisesTest {
         Check.due("the lower one behind it", 3, desk.rows());
         desk.drop();
         layBoxes(desk, 1);
-        lay(desk, polygon(0));
-        lay(desk, 1, 0, 0, 0);
-        lay(desk, 0, 1, 0, 0);
+        Desks.lay(desk, polygon(0));
+        Desks.lay(desk, 1, 0, 0, 0);
+        Desks.lay(desk, 0, 1, 0, 0);
         desk.or();
         desk.or();
         Check.due("three rows times four", false, desk.within());
         desk.drop();
         desk.drop();
-        lay(desk, polygon(0));
-        lay(desk, polygon(20));
+        Desks.lay(desk, polygon(0));
+        Desks.lay(desk, polygon(20));
         Check.due("a polygon in another", false, desk.within());
         desk.drop();
         layStrips(desk, 3, true);
@@ -655,17 +626,17 @@ public final class PromisesTest {
         Check.argument("f", () -> desk.least(-101, 0));
         Check.argument("g", () -> desk.least(0, 101));
         Check.argument("g", () -> desk.least(0, -101));
-        lay(desk);
+        Desks.lay(desk);
         leastIs(desk, 1, 0, 2, 0, 0);
         leastIs(desk, 0, 0, 0, 0, 1);
-        lay(desk, -3, -2, -7, 1);
+        Desks.lay(desk, -3, -2, -7, 1);
         leastIs(desk, 3, 2, 1, 7, 1);
         leastIs(desk, 6, 4, 1, 14, 1);
         leastIs(desk, 1, 0, 2, 0, 0);
         leastIs(desk, -3, -2, 2, 0, 0);
-        lay(desk, -6, -4, 7, 0);
+        Desks.lay(desk, -6, -4, 7, 0);
         leastIs(desk, 3, 2, 0, -7, 2);
-        lay(desk, -2, 0, -1, 0, 0, -3, -1, 0);
+        Desks.lay(desk, -2, 0, -1, 0, 0, -3, -1, 0);
         leastIs(desk, 1, 1, 0, 5, 6);
         leastIs(desk, 100, 100, 0, 250, 3);
         leastIs(desk, 1, 0, 0, 1, 2);
@@ -673,54 +644,54 @@ public final class PromisesTest {
         leastIs(desk, 1, -1, 2, 0, 0);
         desk.drop();
         desk.drop();
-        lay(desk, -2, 0, -1, 1, 0, -3, -1, 0);
+        Desks.lay(desk, -2, 0, -1, 1, 0, -3, -1, 0);
         leastIs(desk, 1, 1, 1, 5, 6);
         leastIs(desk, 0, 1, 0, 1, 3);
         // At the corner (0, 0) a strict member that is else not seen keeps the value from being taken.
-        lay(desk, -1, 0, 0, 0, 0, -1, 0, 0, -1, -1, 0, 1);
+        Desks.lay(desk, -1, 0, 0, 0, 0, -1, 0, 0, -1, -1, 0, 1);
         leastIs(desk, 1, 2, 1, 0, 1);
         leastIs(desk, 1, 0, 0, 0, 1);
         desk.drop();
-        lay(desk, 1, 0, 0, 0, 0, 1, 0, 0, 1, 1, 0, 1);
+        Desks.lay(desk, 1, 0, 0, 0, 0, 1, 0, 0, 1, 1, 0, 1);
         leastIs(desk, -1, -2, 1, 0, 1);
         leastIs(desk, -2, -1, 1, 0, 1);
         leastIs(desk, 0, -1, 0, 0, 1);
     }
 
     private static void leastOfUnions() {
-        RegionDesk desk = with(-1, 0, -3, 1);
-        lay(desk, -1, 0, -3, 0, 0, -1, 0, 0);
+        RegionDesk desk = Desks.with(-1, 0, -3, 1);
+        Desks.lay(desk, -1, 0, -3, 0, 0, -1, 0, 0);
         desk.or();
         leastIs(desk, 1, 0, 0, 3, 1);
         leastIs(desk, 0, 1, 2, 0, 0);
-        lay(desk, -2, 0, -5, 1);
+        Desks.lay(desk, -2, 0, -5, 1);
         desk.or();
         leastIs(desk, 2, 0, 1, 5, 1);
-        lay(desk, 0, 1, 0, 0);
+        Desks.lay(desk, 0, 1, 0, 0);
         desk.or();
         leastIs(desk, 1, 0, 2, 0, 0);
-        lay(desk, -1, 0, 0, 0);
-        lay(desk, -1, 0, 0, 1);
+        Desks.lay(desk, -1, 0, 0, 0);
+        Desks.lay(desk, -1, 0, 0, 1);
         desk.or();
         leastIs(desk, 1, 0, 0, 0, 1);
         leastIs(desk, 0, 0, 0, 0, 1);
     }
 
     private static void leastOfFarNumbers() {
-        RegionDesk desk = with(-10000, 9999, -10000, 0, 9999, -10000, -9999, 0);
+        RegionDesk desk = Desks.with(-10000, 9999, -10000, 0, 9999, -10000, -9999, 0);
         leastIs(desk, 100, 100, 0, 1999900, 1);
-        lay(desk, -10000, -9999, -9998, 0, 9999, -10000, -9995, 0);
+        Desks.lay(desk, -10000, -9999, -9998, 0, 9999, -10000, -9995, 0);
         leastIs(desk, -1, 100, 0, 19991960205L, 199980001);
-        lay(desk, -9998, -10000, -9998, 1, 9998, -9999, -9994, 0);
+        Desks.lay(desk, -9998, -10000, -9998, 1, 9998, -9999, -9994, 0);
         leastIs(desk, -99, 100, 1, 1427502243, 14282143);
-        lay(desk, -9999, -10000, -9999, 0, 9997, -10000, -9993, 0);
+        Desks.lay(desk, -9999, -10000, -9999, 0, 9997, -10000, -9993, 0);
         leastIs(desk, -99, 100, 0, 19982061, 199960);
         desk.or();
         leastIs(desk, -99, 100, 0, 19982061, 199960);
     }
 
     private static void value() {
-        RegionDesk desk = with(-2, 0, -1, 0);
+        RegionDesk desk = Desks.with(-2, 0, -1, 0);
         Check.argument("part 2", () -> desk.value(2));
         Check.argument("part -1", () -> desk.value(-1));
         leastIs(desk, 3, 0, 0, 3, 2);
@@ -732,7 +703,7 @@ public final class PromisesTest {
         Check.due("value behind a least that threw", 2, desk.value(1));
         desk.load(0);
         leastIs(desk, 3, 0, 3, 0, 0);
-        lay(desk, -2, 0, 1, 1);
+        Desks.lay(desk, -2, 0, 1, 1);
         leastIs(desk, 4, 0, 1, -2, 1);
         leastIs(desk, 0, 1, 2, 0, 0);
         leastIs(desk, 0, 0, 0, 0, 1);
