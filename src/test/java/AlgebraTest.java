@@ -1,6 +1,7 @@
 import java.util.ArrayList;
 import java.util.List;
 import java.util.Random;
+import java.util.function.Supplier;
 
 /**
  * Points say what the operations do: of regions drawn by fixed seeds, and, or, not, free, within
@@ -11,8 +12,10 @@ public final class AlgebraTest {
     private static final int REACH = 6;
     private static final int PARTS = 2;
 
+    /** As many calls of holds() on one desk leave enough for what is made there. */
+    private static final int ASKED = 400;
+
     private final Random random;
-    private final RegionDesk desk = new RegionDesk();
     private final String name;
 
     private AlgebraTest(int run) {
@@ -29,16 +32,14 @@ public final class AlgebraTest {
 
     private void go() {
         List<int[]> p = draw(1 + random.nextInt(2));
-        desk.keep(0);
         List<int[]> q = draw(1);
-        desk.keep(1);
         compareAtPoints(p, q);
         compareWithin(p, q);
         compareFree(p);
         compareLeast(p);
     }
 
-    /** A region of some rows on the pile, and its members as they were given: a, b, c, strict, row. */
+    /** The members of a region of some rows: a, b, c, strict, row. */
     private List<int[]> draw(int rowCount) {
         List<int[]> members = new ArrayList<>();
         for (int r = 0; r < rowCount; r++) {
@@ -46,16 +47,37 @@ public final class AlgebraTest {
             for (int i = 0; i < count; i++) {
                 int a = random.nextInt(5) - 2;
                 int b = a == 0 ? 1 - 2 * random.nextInt(2) : random.nextInt(5) - 2;
-                int[] member = {a, b, random.nextInt(9) - 2, random.nextInt(2), r};
-                members.add(member);
-                desk.member(a, b, member[2], member[3] == 1);
-            }
-            desk.row();
-            if (r > 0) {
-                desk.or();
+                members.add(new int[] {a, b, random.nextInt(9) - 2, random.nextInt(2), r});
             }
         }
         return members;
+    }
+
+    private static RegionDesk with(List<int[]> members) {
+        RegionDesk desk = new RegionDesk();
+        lay(desk, members);
+        return desk;
+    }
+
+    private static RegionDesk with(List<int[]> p, List<int[]> q) {
+        RegionDesk desk = with(p);
+        lay(desk, q);
+        return desk;
+    }
+
+    private static void lay(RegionDesk desk, List<int[]> members) {
+        int r = 0;
+        for (int[] m : members) {
+            if (m[4] != r) {
+                desk.row();
+                r = m[4];
+            }
+            desk.member(m[0], m[1], m[2], m[3] == 1);
+        }
+        desk.row();
+        for (int i = 0; i < r; i++) {
+            desk.or();
+        }
     }
 
     private static boolean belongs(List<int[]> members, int p, int q, int d) {
@@ -74,45 +96,50 @@ public final class AlgebraTest {
     }
 
     private void compareAtPoints(List<int[]> p, List<int[]> q) {
-        loadBoth();
-        desk.and();
-        atPoints("and", (x, y) -> belongs(p, x, y, PARTS) && belongs(q, x, y, PARTS));
-        loadBoth();
-        desk.or();
-        atPoints("or", (x, y) -> belongs(p, x, y, PARTS) || belongs(q, x, y, PARTS));
-        desk.load(0);
-        desk.not();
-        atPoints("not", (x, y) -> !belongs(p, x, y, PARTS));
-        loadBoth();
-        desk.not();
-        desk.and();
-        atPoints("and not", (x, y) -> belongs(p, x, y, PARTS) && !belongs(q, x, y, PARTS));
+        atPoints("and", () -> {
+            RegionDesk desk = with(p, q);
+            desk.and();
+            return desk;
+        }, (x, y) -> belongs(p, x, y, PARTS) && belongs(q, x, y, PARTS));
+        atPoints("or", () -> {
+            RegionDesk desk = with(p, q);
+            desk.or();
+            return desk;
+        }, (x, y) -> belongs(p, x, y, PARTS) || belongs(q, x, y, PARTS));
+        atPoints("not", () -> {
+            RegionDesk desk = with(p);
+            desk.not();
+            return desk;
+        }, (x, y) -> !belongs(p, x, y, PARTS));
+        atPoints("and not", () -> {
+            RegionDesk desk = with(p, q);
+            desk.not();
+            desk.and();
+            return desk;
+        }, (x, y) -> belongs(p, x, y, PARTS) && !belongs(q, x, y, PARTS));
     }
 
     private interface Place {
         boolean has(int x, int y);
     }
 
-    private void atPoints(String what, Place place) {
+    private void atPoints(String what, Supplier<RegionDesk> maker, Place place) {
         int end = REACH * PARTS;
+        int asked = 0;
+        RegionDesk desk = maker.get();
         for (int x = -end; x <= end; x++) {
             for (int y = -end; y <= end; y++) {
+                if (asked % ASKED == 0) {
+                    desk = maker.get();
+                }
+                asked++;
                 Check.due(name + what + " at " + x + ", " + y, place.has(x, y), desk.holds(x, y, PARTS));
             }
         }
-        desk.drop();
-    }
-
-    private void loadBoth() {
-        desk.load(0);
-        desk.load(1);
     }
 
     private void compareWithin(List<int[]> p, List<int[]> q) {
-        loadBoth();
-        boolean inside = desk.within();
-        desk.drop();
-        desk.drop();
+        boolean inside = with(p, q).within();
         int end = REACH * PARTS;
         for (int x = -end; x <= end && inside; x++) {
             for (int y = -end; y <= end; y++) {
@@ -124,7 +151,7 @@ public final class AlgebraTest {
 
     /** With numbers this small, a column with a point has one with a y that is m / 24, |y| <= 40. */
     private void compareFree(List<int[]> p) {
-        desk.load(0);
+        RegionDesk desk = with(p);
         desk.free(1);
         for (int x = -REACH; x <= REACH; x++) {
             boolean some = false;
@@ -134,17 +161,15 @@ public final class AlgebraTest {
             Check.due(name + "free of y at " + x, some, desk.holds(x, 0, 1));
             Check.due(name + "free of y at " + x, some, desk.holds(x, 77, 1));
         }
-        desk.drop();
     }
 
     private void compareLeast(List<int[]> p) {
-        desk.load(0);
+        RegionDesk desk = with(p);
         int f = random.nextInt(7) - 3;
         int g = random.nextInt(7) - 3;
         int kind = desk.least(f, g);
         long top = desk.value(0);
         long base = desk.value(1);
-        desk.drop();
         int end = REACH * PARTS;
         for (int x = -end; x <= end; x++) {
             for (int y = -end; y <= end; y++) {

@@ -29,6 +29,8 @@ public final class CallsTest extends Desks {
         loadStill();
         loadOfSix();
         drop();
+        nothingIsLeft();
+        nothingIsLeftForTwo();
         pile();
         rows();
         members();
@@ -45,6 +47,7 @@ public final class CallsTest extends Desks {
         leastThatThereIsNot();
         leastOfNoPoints();
         leastOfZeros();
+        leastOfManyCorners();
         leastOfUnions();
         leastNumbers();
         valueBehindEach();
@@ -382,6 +385,57 @@ public final class CallsTest extends Desks {
         Check.due("drop()", true, desk.drop());
     }
 
+    /** A desk whose lowest place held rows of twelve members, and now just a row of these. */
+    private static RegionDesk reused(int... numbers) {
+        RegionDesk desk = new RegionDesk();
+        layAll(desk, tangents(0), tangents(2));
+        desk.keep(0);
+        lay(desk, numbers);
+        return desk;
+    }
+
+    private static void nothingIsLeft() {
+        Check.sentence("The uppermost one goes: nothing is left of it where another comes");
+        RegionDesk desk = reused(-1, 1, 9, 1);
+        Check.due("the other", "[-1 1 9 <]", told(desk));
+        Check.due("holds()", true, desk.holds(100, -100, 1));
+        Check.due("holds()", false, desk.holds(0, 9, 1));
+        leastIs(desk, -1, 0, 2, 0, 0);
+        leastIs(desk, 0, 1, 2, 0, 0);
+        leastIs(desk, 1, -1, 1, -9, 1);
+        leastIs(reused(-1, 0, 9, 0), 1, 1, 2, 0, 0);
+        desk.free(0);
+        Check.due("free(0)", "[]", told(desk));
+        desk = reused(0, 1, 9, 1);
+        desk.free(0);
+        Check.due("free(0)", "[0 1 9 <]", told(desk));
+        desk.free(1);
+        Check.due("free(1)", "[]", told(desk));
+        desk = reused(-1, 1, 9, 1);
+        desk.keep(0);
+        desk.load(0);
+        Check.due("keep() in place of it", "[-1 1 9 <]", told(desk));
+        Check.due("holds()", true, desk.holds(100, -100, 1));
+    }
+
+    private static void nothingIsLeftForTwo() {
+        Check.sentence("The uppermost one goes: nothing is left of it in what is made of the other");
+        RegionDesk desk = reused(-1, 1, 9, 1);
+        desk.not();
+        Check.due("not()", "[1 -1 -9 <=]", told(desk));
+        desk = reused(-1, 1, 9, 1);
+        lay(desk, 1, 0, 5, 0);
+        desk.and();
+        Check.due("and()", "[-1 1 9 <, 1 0 5 <=]", told(desk));
+        desk = reused(-1, 1, 9, 1);
+        lay(desk, 1, 0, 5, 0);
+        desk.or();
+        Check.due("or()", "[-1 1 9 <][1 0 5 <=]", told(desk));
+        desk = reused(-1, 1, 9, 1);
+        lay(desk, -1, 1, 8, 0);
+        Check.due("within()", true, desk.within());
+    }
+
     private static void pile() {
         Check.sentence("How many lie on the pile");
         RegionDesk desk = new RegionDesk();
@@ -451,13 +505,7 @@ public final class CallsTest extends Desks {
         for (int i : new int[] {-1, 0, 1, FAR[0], FAR[3]}) {
             refused("part(1, " + i + ", 3) of none", Check.INDEX, d -> d.part(1, i, 3), two);
         }
-        int[] twelve = new int[48];
-        for (int k = 0; k < 12; k++) {
-            twelve[4 * k] = 2 * k;
-            twelve[4 * k + 1] = -1;
-            twelve[4 * k + 2] = k * k;
-            twelve[4 * k + 3] = k % 2;
-        }
+        int[] twelve = tangents(2);
         RegionDesk desk = with(twelve);
         for (int i = 0; i < 12; i++) {
             for (int what = 0; what < 4; what++) {
@@ -626,6 +674,10 @@ public final class CallsTest extends Desks {
         leastIs(touched, 1, 2, 1, 0, 1);
         leastIs(touched, 1, 1, 1, 0, 1);
         leastIs(touched, 1, 0, 0, 0, 1);
+        RegionDesk touchedLast = with(1, 0, 0, 0, 0, 1, 0, 0, 1, 1, 0, 1);
+        leastIs(touchedLast, -1, -2, 1, 0, 1);
+        leastIs(touchedLast, -2, -1, 1, 0, 1);
+        leastIs(touchedLast, 0, -1, 0, 0, 1);
         RegionDesk halfLine = with(0, 1, 5, 0, 0, -1, -5, 0, -1, 0, 0, 1);
         leastIs(halfLine, 1, 0, 1, 0, 1);
         leastIs(halfLine, 1, 1, 1, 5, 1);
@@ -665,6 +717,37 @@ public final class CallsTest extends Desks {
         leastIs(with(), 0, 0, 0, 0, 1);
         leastIs(with(1, 0, 0, 1), 0, 0, 0, 0, 1);
         leastIs(with(1, 0, 1, 0, -1, 0, -1, 0, 0, 1, 5, 1), 0, 0, 0, 0, 1);
+    }
+
+    /** y above the parabola's tangents at x = 0 .. 11, each so manieth one strict (0: none). */
+    private static int[] tangents(int strictEach) {
+        int[] numbers = new int[48];
+        for (int k = 0; k < 12; k++) {
+            numbers[4 * k] = 2 * k;
+            numbers[4 * k + 1] = -1;
+            numbers[4 * k + 2] = k * k;
+            numbers[4 * k + 3] = strictEach > 0 && k % strictEach == strictEach - 1 ? 1 : 0;
+        }
+        return numbers;
+    }
+
+    private static void leastOfManyCorners() {
+        Check.sentence("The infimum over a row of twelve members");
+        RegionDesk closed = with(tangents(0));
+        RegionDesk half = with(tangents(2));
+        RegionDesk third = with(tangents(3));
+        for (int k = 0; k < 11; k++) {
+            leastIs(closed, -2 * k - 1, 1, 0, -2 * k * k - 2 * k - 1, 2);
+            leastIs(half, -2 * k - 1, 1, 1, -2 * k * k - 2 * k - 1, 2);
+            leastIs(closed, -2 * k, 1, 0, -k * k, 1);
+            leastIs(half, -2 * k, 1, k % 2, -k * k, 1);
+            leastIs(third, -2 * k - 1, 1, k % 3 == 0 ? 0 : 1, -2 * k * k - 2 * k - 1, 2);
+            leastIs(third, -2 * k, 1, k % 3 == 2 ? 1 : 0, -k * k, 1);
+        }
+        leastIs(closed, -22, 1, 0, -121, 1);
+        leastIs(closed, -23, 1, 2, 0, 0);
+        leastIs(closed, 1, 1, 2, 0, 0);
+        leastIs(closed, 0, -1, 2, 0, 0);
     }
 
     private static void leastOfUnions() {

@@ -32,6 +32,7 @@ public final class LimitsTest extends Desks {
         rowsInBetween();
         rowsOfWithin();
         rowsOfFree();
+        twelveTimesTwelve();
         Check.end();
     }
 
@@ -87,6 +88,8 @@ public final class LimitsTest extends Desks {
                 free(0, row(1, 1, 10000, 0, -1, 0, 1, 0, 0, 1, 3, 0)));
         Check.due("y <= 10001, which y <= 10000 implies", "[0 1 10000 <]",
                 free(0, row(1, 1, 10000, 0, -1, 0, 1, 0, 0, 1, 10000, 1)));
+        Check.due("2 y <= 19999, which y <= 3 implies", "[0 1 3 <=]",
+                free(0, row(1, 1, 10000, 0, -1, 1, 9999, 0, 0, 1, 3, 0)));
         Check.due("0 <= 20000, no member", "[]", free(0, row(1, 0, 10000, 0, -1, 0, 10000, 0)));
     }
 
@@ -384,5 +387,30 @@ public final class LimitsTest extends Desks {
         Check.sentence("FREE: for each row, the row is added");
         Check.due("12 stay", stripsTold(0, 11), free(1, strips(0, 11)));
         Check.due("12 are the same", "[]", free(0, strips(0, 11)));
+    }
+
+    private static void twelveTimesTwelve() {
+        Check.sentence("twelve rows, the last of them with twelve members");
+        int[][] rows = joined(strips(0, 10), region(tangents(0, 11)));
+        String due = stripsTold(0, 10) + tangentsTold(0, 11);
+        Check.due("or()", due, or(rows, rows));
+        Check.due("and()", due, and(rows, region(row())));
+        RegionDesk desk = withAll(rows);
+        desk.keep(3);
+        desk.load(3);
+        Check.due("keep() and load()", due, told(desk));
+        int[][] twelve = new int[12][];
+        for (int i = 0; i < 12; i++) {
+            twelve[i] = tangents(i, i + 11);
+        }
+        RegionDesk full = withAll(twelve);
+        for (int r = 0; r < 12; r++) {
+            Check.due("members(" + r + ")", 12, full.members(r));
+            Check.due("its first a", 2 * r, full.part(r, 0, 0));
+            Check.due("its last c", (r + 11) * (r + 11), full.part(r, 11, 2));
+        }
+        Check.due("holds()", true, full.holds(0, 0, 1));
+        Check.due("holds()", false, full.holds(22, 300, 1));
+        Check.due("least()", 2, full.least(0, 1));
     }
 }

@@ -3,8 +3,9 @@ import java.util.function.Supplier;
 
 /** Runs of calls drawn by a fixed seed: the program answers each as the model does. */
 public final class ModelTest {
-    private static final int RUNS = 400;
-    private static final int CALLS = 160;
+    private static final int RUNS = 5000;
+    /** What later calls answer is free. */
+    private static final int CALLS = 512;
 
     private final Random random;
     private final int run;
@@ -12,6 +13,7 @@ public final class ModelTest {
     private final RegionDesk desk = new RegionDesk();
     private final Model model = new Model();
     private final StringBuilder history = new StringBuilder();
+    private int used;
 
     private ModelTest(int run) {
         this.run = run;
@@ -27,7 +29,7 @@ public final class ModelTest {
     }
 
     private void go() {
-        for (int i = 0; i < CALLS && Check.wrongSoFar() == 0; i++) {
+        while (used < CALLS && Check.wrongSoFar() == 0) {
             step();
             compare("pile()", desk::pile, model::pile);
         }
@@ -124,35 +126,30 @@ public final class ModelTest {
             return;
         }
         compare("rows()", desk::rows, model::rows);
+        // Reading all of it each time would leave few calls that change something.
+        if (random.nextInt(3) == 0) {
+            compareRows();
+        }
+    }
+
+    private void compareRows() {
         for (int r = 0; r < model.rows() && Check.wrongSoFar() == 0; r++) {
             int row = r;
             compare("members(" + r + ")", () -> desk.members(row), () -> model.members(row));
-            compare("row " + r, () -> written(desk, model.members(row), row),
-                    () -> written(model, row));
-        }
-    }
-
-    private static String written(RegionDesk desk, int members, int r) {
-        StringBuilder text = new StringBuilder();
-        for (int i = 0; i < members; i++) {
-            for (int what = 0; what < 4; what++) {
-                text.append(desk.part(r, i, what)).append(what == 3 ? "; " : " ");
+            for (int i = 0; i < 4 * model.members(r); i++) {
+                int at = i / 4;
+                int what = i % 4;
+                compare("part(" + r + ", " + at + ", " + what + ")", () -> desk.part(row, at, what),
+                        () -> model.part(row, at, what));
             }
         }
-        return text.toString();
-    }
-
-    private static String written(Model model, int r) {
-        StringBuilder text = new StringBuilder();
-        for (int i = 0; i < model.members(r); i++) {
-            for (int what = 0; what < 4; what++) {
-                text.append(model.part(r, i, what)).append(what == 3 ? "; " : " ");
-            }
-        }
-        return text.toString();
     }
 
     private void compare(String call, Supplier<Object> got, Supplier<Object> want) {
+        used++;
+        if (used > CALLS) {
+            return;
+        }
         String due = answer(want);
         history.append(call).append(" -> ").append(due).append('\n');
         Check.due("run " + run + ": " + call, due, answer(got));

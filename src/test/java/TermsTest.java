@@ -13,6 +13,7 @@ public final class TermsTest extends Desks {
         impliedInOrder();
         rowWithoutMembers();
         rowsWithoutPoints();
+        pointsWhateverElse();
         noTwoTheSame();
         pileAndTables();
         adding();
@@ -26,6 +27,7 @@ public final class TermsTest extends Desks {
         notRowByRow();
         freeWithoutColumn();
         freeOfOneSide();
+        freeOfSixAndSix();
         freeSums();
         freeStrict();
         Check.end();
@@ -164,6 +166,46 @@ public final class TermsTest extends Desks {
         Check.due("three through a point, one strict", "", form(-1, 0, 0, 1, 0, -1, 0, 0, 1, 1, 0, 0));
         Check.due("three through a point, one strict", "", form(-1, 0, 0, 0, 0, -1, 0, 1, 1, 1, 0, 0));
         Check.due("three through a point, one strict", "", form(-1, 0, 0, 0, 0, -1, 0, 0, 1, 1, 0, 1));
+    }
+
+    /** Members that say little, in all directions: they change no row that lies near (0, 0). */
+    private static void pointsWhateverElse() {
+        Check.sentence("Rows without points are no rows, whatever else is said");
+        int[] crossed = row(1, 0, 1, 0, -1, 0, -2, 0);
+        int[] slant = row(3, 5, 7, 0, -3, -5, -7, 1);
+        int[] three = row(-1, 2, 0, 0, -1, -2, 0, 1, 1, 0, 0, 0);
+        int[] apart = row(-1, 2, 0, 0, -1, -2, 0, 0, 1, 0, -1, 0);
+        int[] point = row(-1, 2, 0, 0, -1, -2, 0, 0, 1, 0, 0, 0);
+        int[] box = row(1, 0, 1, 1, -1, 0, 1, 0, 0, 1, 1, 0, 0, -1, 1, 1);
+        for (int a = -4; a <= 4; a++) {
+            for (int b = -4; b <= 4; b++) {
+                if (a != 0 || b != 0) {
+                    int[] far = row(a, b, 9973, 0);
+                    String with = " with " + a + " " + b;
+                    Check.due("crossed" + with, "", form(also(far, crossed)));
+                    Check.due("slant" + with, "", form(also(far, slant)));
+                    Check.due("three through a point" + with, "", form(also(far, three)));
+                    Check.due("three round no point" + with, "", form(also(far, apart)));
+                    Check.due("a point" + with, "[-1 -2 0 <=, -1 2 0 <=, 1 0 0 <=]", form(also(far, point)));
+                    Check.due("a box" + with, "[-1 0 1 <=, 0 -1 1 <, 0 1 1 <=, 1 0 1 <]", form(also(far, box)));
+                }
+            }
+        }
+        Check.due("the first of two bounds crosses", "", form(-2, 0, -9, 0, -1, 0, 0, 0, 1, 0, 3, 0));
+        Check.due("the first of two bounds crosses, 20 / 3 and 11 / 2", "",
+                form(-3, 0, -20, 0, -2, 0, -11, 0, 1, 0, 6, 0));
+        Check.due("of two bounds at the same place the first is strict", "",
+                form(-1, -1, 1, 0, -1, 0, 1, 1, 0, 1, 0, 0, 1, -1, -1, 0));
+        Check.due("of two bounds at the same place none is strict", "[-1 0 1 <=, 0 1 0 <=, 1 -1 -1 <=]",
+                form(-1, -1, 1, 0, -1, 0, 1, 0, 0, 1, 0, 0, 1, -1, -1, 0));
+        Check.due("the last of two bounds crosses", "", form(-2, 0, -1, 0, -1, 0, -5, 0, 1, 0, 3, 0));
+    }
+
+    private static int[] also(int[] first, int[] second) {
+        int[] numbers = new int[first.length + second.length];
+        System.arraycopy(first, 0, numbers, 0, first.length);
+        System.arraycopy(second, 0, numbers, first.length, second.length);
+        return numbers;
     }
 
     private static String both(int[] first, int[] second) {
@@ -345,6 +387,23 @@ public final class TermsTest extends Desks {
         Check.due("above 0 beside one without", "[0 1 4 <]", free(0, row(1, 1, 0, 0, 0, 1, 4, 1)));
         Check.due("each with each", "[0 -1 6 <=, 0 3 8 <=]",
                 free(0, row(1, 1, 4, 0, 1, -1, 6, 0, -1, 2, 4, 0, -1, 0, 0, 0, -1, -2, 12, 0)));
+    }
+
+    /** x below -y^2 and above y^2 - 3701, by tangents: 36 sums, of which the last says most. */
+    private static void freeOfSixAndSix() {
+        Check.sentence("for each member with a number u above 0 and each with -l below 0: six and six");
+        int[] numbers = new int[48];
+        for (int k = 1; k <= 6; k++) {
+            int above = 8 * (k - 1);
+            numbers[above] = 1;
+            numbers[above + 1] = 20 * k;
+            numbers[above + 2] = 100 * k * k;
+            numbers[above + 4] = -1;
+            numbers[above + 5] = 2 * k;
+            numbers[above + 6] = k * k + 3701;
+        }
+        Check.due("members", 12, with(numbers).members(0));
+        Check.due("y <= 7337 / 132", "[0 12 667 <=]", free(0, numbers));
     }
 
     private static void freeSums() {
