@@ -420,6 +420,14 @@ public final class TermsTest extends Desks {
         Check.due("the first", "[0 2 9 <]", free(0, row(1, 1, 4, 1, -1, 1, 5, 0)));
         Check.due("the second", "[0 2 9 <]", free(0, row(1, 1, 4, 0, -1, 1, 5, 1)));
         Check.due("both", "[0 2 9 <]", free(0, row(1, 1, 4, 1, -1, 1, 5, 1)));
+        Check.due("not one without the column, beside a strict one below 0", "[0 1 5 <=]",
+                free(0, row(0, 1, 5, 0, -1, 0, 0, 1)));
+        Check.due("not one without the column, beside a strict one above 0", "[0 1 5 <=]",
+                free(0, row(0, 1, 5, 0, 1, 0, 0, 1)));
+        Check.due("not one without y, beside strict ones", "[1 0 5 <=]",
+                free(1, row(1, 0, 5, 0, 0, 1, 3, 1, 0, -1, 3, 1)));
+        Check.due("one without the column that is strict itself", "[0 1 5 <]",
+                free(0, row(0, 1, 5, 1, 1, 0, 0, 0, -1, 0, 0, 0)));
         Check.due("the first of y", "[2 0 9 <]", free(1, row(1, 1, 4, 1, 1, -1, 5, 0)));
         Check.due("the second of y", "[2 0 9 <]", free(1, row(1, 1, 4, 0, 1, -1, 5, 1)));
     }
